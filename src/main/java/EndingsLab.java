@@ -97,6 +97,7 @@ public final class EndingsLab {
         if (!isBelow(procedure, PROCEDURES)) {
             return REFUSED;
         }
+        // Whose thread it is makes no difference to any answer, so ownThread is not looked at.
         return judgeAll(procedure) == GOOD ? machine.perform(procedure, number) : WRONG;
     }
 
@@ -216,7 +217,7 @@ public final class EndingsLab {
         }
     }
 
-    /** Reads a text once from its beginning, with a row of the blocks that are open; [1] is the text's own block. */
+    /** Reads a text once, with rows of the blocks that are open: [0] is the outside, [1] the text's own block. */
     private static final class Checker {
         private final int[] openers = new int[BLOCKS + 1];
         private final boolean[] inTimes = new boolean[BLOCKS + 1];
@@ -296,12 +297,10 @@ public final class EndingsLab {
             if (depth >= BLOCKS) {
                 return;
             }
-            boolean aroundIsTimes = depth > 0 && inTimes[depth];
-            boolean aroundIsCatch = depth > 0 && inCatch[depth];
+            inTimes[depth + 1] = ofTimes || inTimes[depth];
+            inCatch[depth + 1] = ofCatch || inCatch[depth];
             depth++;
             openers[depth] = opener;
-            inTimes[depth] = ofTimes || aroundIsTimes;
-            inCatch[depth] = ofCatch || aroundIsCatch;
             lacking[depth] = 0;
         }
 
@@ -458,7 +457,7 @@ public final class EndingsLab {
         /** Ends with VALUE, FAULT or TOO_LATE. */
         private Ending doProcedure(int level) {
             Frame frame = frames[level];
-            Ending ending = doItems(level, 0, textOf(level).size - 1);
+            Ending ending = doBlock(level, NONE);
             if (ending == Ending.TOO_LATE) {
                 return ending;
             }
@@ -487,18 +486,17 @@ public final class EndingsLab {
             return texts[frames[level].procedure];
         }
 
+        /** Does the block behind its opener; the text's own block has NONE, the place before its first token. */
         private Ending doBlock(int level, int opener) {
-            return doItems(level, opener + 1, textOf(level).ends[opener]);
-        }
-
-        private Ending doItems(int level, int from, int end) {
-            int at = from;
+            Text text = textOf(level);
+            int end = opener == NONE ? text.size - 1 : text.ends[opener];
+            int at = opener + 1;
             for (int done = 0; done < TOKENS && at < end; done++) {
                 Ending ending = doItem(level, at);
                 if (ending != Ending.ON) {
                     return ending;
                 }
-                at = textOf(level).behind(at);
+                at = text.behind(at);
             }
             return Ending.ON;
         }

@@ -18,6 +18,7 @@ public final class RunsTest {
         kindsAreCaught();
         catches();
         causes();
+        manyFaults();
         lastBlocks();
         forgottenEndings();
         locks();
@@ -151,6 +152,16 @@ public final class RunsTest {
         Bench.raises(z, 3, 0, HARD);
     }
 
+    private static void manyFaults() {
+        EndingsLab x = Bench.lab("TRY 1 TIMES 5 TIMES 5 TRY 1 RAISE 2 END CATCH 0 END END END RAISE 3 END CATCH 0 WRAP 1 END END");
+        for (int i = 0; i < 100; i++) {
+            Bench.raises(x, 0, 0, SOFT, COLD);
+        }
+        Bench.rewrite(x, 0, "TIMES 5 TIMES 5 TIMES 5 TRY 1 LEAVE 0 END CATCH 4 END END END END RAISE 2 END");
+        Bench.raises(x, 0, 0, HARD);
+        Bench.due("steps() of 126 faults", x.steps(), 282);
+    }
+
     private static void lastBlocks() {
         EndingsLab x = Bench.lab("TRY 4 ADD 1 END LAST ADD 10 END ADD 100 END",
             "TRY 4 RAISE 1 END LAST NOTE 7 END NOTE 8 END",
@@ -177,6 +188,10 @@ public final class RunsTest {
         Bench.returns(z, 1, 0, 3);
         Bench.returns(z, 2, 0, 1);
         Bench.returns(z, 3, 0, 3);
+        EndingsLab without = Bench.lab("TRY 0 ADD 1 END TIMES 1 ADD 10 END ADD 100 END",
+            "TRY 1 RAISE 1 END CATCH 1 ADD 1 END TIMES 1 ADD 10 END ADD 100 END");
+        Bench.returns(without, 0, 0, 111);
+        Bench.returns(without, 1, 0, 111);
         EndingsLab nested = Bench.lab("TRY 4 TRY 4 RAISE 1 END LAST NOTE 1 END END LAST NOTE 2 END END");
         Bench.raises(nested, 0, 0, SOFT);
         Bench.noted(nested, 2, 1);
@@ -308,6 +323,10 @@ public final class RunsTest {
         Bench.due("fault(0) of a LATE run", y.fault(0), REFUSED);
         Bench.returns(y, 2, 5, 0);
         Bench.due("most() of the next run", y.most(), 0);
+        Bench.rewrite(y, 2, "LOCK 2 END END");
+        Bench.due("another LATE run", y.run(0, 0, true), LATE);
+        Bench.returns(y, 2, 5, 5);
+        Bench.due("nothing is held behind a LATE run", y.most(), 1);
     }
 
     private static void stepsAreCounted() {

@@ -139,7 +139,15 @@ public final class TextsTest {
         wrong(2, "TIMES 1 END BREAK END");
         wrong(2, "TIMES 1 END NEXT END");
         wrong(1, "ABOVE 1 BREAK END END");
+        wrong(1, "LOCK 1 NEXT END END");
+        wrong(1, "TRY 1 BREAK END CATCH 0 END END");
+        wrong(3, "TRY 1 END CATCH 0 BREAK END END");
+        wrong(3, "TRY 4 END LAST NEXT END END");
         wrong(0, "WRAP 1 END");
+        wrong(1, "TIMES 1 WRAP 1 END END");
+        wrong(1, "ABOVE 1 WRAP 1 END END");
+        wrong(1, "LOCK 1 WRAP 1 END END");
+        wrong(3, "TRY 4 END LAST WRAP 1 END END");
         wrong(1, "TRY 1 WRAP 1 END CATCH 0 END END");
         wrong(5, "TRY 5 END CATCH 0 END LAST WRAP 1 END END");
         wrong(4, "TRY 1 END CATCH 0 END WRAP 1 END");
