@@ -81,6 +81,18 @@ final class Bench {
         due("fault(" + kinds.length + ") behind the last cause", x.fault(kinds.length), EndingsLab.REFUSED);
     }
 
+    /** The run is LATE, and its 300 steps are all that was begun. */
+    static void late(EndingsLab x, int procedure, int number) {
+        due("run(" + procedure + ", " + number + ")", x.run(procedure, number, false), EndingsLab.LATE);
+        due("steps() after LATE", x.steps(), 300);
+        due("fault(0) after LATE", x.fault(0), EndingsLab.REFUSED);
+    }
+
+    /** Items of just so many steps, 281 to 300, that change nothing; an END is still to come. */
+    static String spending(int steps) {
+        return "TIMES 5 TIMES 5 TIMES 5 ADD 0 ADD 0 END END END " + "ADD 0 ".repeat(steps - 281);
+    }
+
     /** The newest events, the last one first, and no more than these. */
     static void noted(EndingsLab x, int... newest) {
         for (int i = 0; i < newest.length; i++) {

@@ -6,6 +6,7 @@ import java.util.Random;
 public final class ModelTest {
     private static final int OBJECTS = 6000;
     private static final int ROUNDS = 12;
+    private static final int[] EDGES = {Integer.MIN_VALUE, Integer.MIN_VALUE + 1, Integer.MAX_VALUE - 1, Integer.MAX_VALUE};
 
     private static final int[] seen = new int[3];
     private static int wrongTexts = 0;
@@ -50,7 +51,7 @@ public final class ModelTest {
             rewriteUntilGood(where);
         }
         int asked = random.nextInt(12) == 0 ? random.nextInt(6) - 1 : p;
-        int number = random.nextInt(12) - 3;
+        int number = random.nextInt(8) == 0 ? EDGES[random.nextInt(EDGES.length)] : random.nextInt(12) - 3;
         int answer = lab.run(asked, number, random.nextBoolean());
         Bench.due(where + "run(" + asked + ", " + number + ")", answer, model.run(asked, number));
         if (answer >= 0) {
@@ -144,7 +145,7 @@ public final class ModelTest {
     private int drawNumber(int op) {
         switch (op) {
             case 2:
-                return random.nextInt(5) - 2;
+                return random.nextInt(20) == 0 ? EDGES[random.nextInt(EDGES.length)] : random.nextInt(5) - 2;
             case 3:
                 return manyTimes ? 5 : random.nextInt(6);
             case 7:
@@ -160,7 +161,7 @@ public final class ModelTest {
             case 13:
                 return random.nextInt(4);
             default:
-                return random.nextInt(40) == 0 ? Integer.MAX_VALUE - random.nextInt(3) : random.nextInt(9) - 3;
+                return random.nextInt(40) == 0 ? EDGES[random.nextInt(EDGES.length)] : random.nextInt(9) - 3;
         }
     }
 }
