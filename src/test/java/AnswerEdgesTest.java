@@ -383,10 +383,11 @@ public final class AnswerEdgesTest {
         }
         EndingsLab writing = new EndingsLab();
         for (int calls = 0; calls + 4 <= CALLS; calls += 4) {
-            Bench.due("token in call " + calls, writing.token(calls % 4, 18, 0), 1);
-            Bench.due("check in call " + calls, writing.check(calls % 4), 0);
-            Bench.due("run in call " + calls, writing.run(calls % 4, calls, true), RETURNED);
-            Bench.due("wipe in call " + calls, writing.wipe(calls % 4), 1);
+            int p = calls / 4 % 4;
+            Bench.due("token in call " + calls, writing.token(p, 18, 0), 1);
+            Bench.due("check in call " + calls, writing.check(p), 0);
+            Bench.due("run in call " + calls, writing.run(p, calls, true), RETURNED);
+            Bench.due("wipe in call " + calls, writing.wipe(p), 1);
         }
         EndingsLab raising = Bench.lab("TIMES 5 TIMES 5 TIMES 5 TRY 1 RAISE 1 END CATCH 0 END END END END RAISE 2 END");
         for (int calls = 13; calls + 2 <= CALLS; calls += 2) {
